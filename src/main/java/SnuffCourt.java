@@ -21,7 +21,7 @@ public final class SnuffCourt {
     private final Court secondImage = new Court();
     private final boolean[] kept = new boolean[2];
     private final Reader reader = new Reader();
-    private final Trial trial = new Trial(court);
+    private final Trial trial = new Trial();
     private final Round round = new Round();
     private final Memory memory = new Memory();
     private final Sheets sheets = new Sheets();
@@ -51,7 +51,13 @@ public final class SnuffCourt {
     }
 
     public int text() {
-        boolean taken = reader.takesAll();
+        int lines = 0;
+        boolean taken = reader.begins();
+        while (taken && lines < TAPE_MOST && !reader.isAtEnd()) {
+            taken = reader.takesLine();
+            lines++;
+        }
+        taken = taken && reader.docketStands();
         reader.size = 0;
         if (!taken) {
             return -10 - reader.from;
@@ -60,7 +66,7 @@ public final class SnuffCourt {
         memory.size = 0;
         kept[0] = false;
         kept[1] = false;
-        return reader.lines;
+        return lines;
     }
 
     public int fault() {
@@ -261,9 +267,8 @@ public final class SnuffCourt {
         }
         int verdict = verdictNow(c, j);
         for (int minute = 0; minute <= MINUTE_MOST; minute++) {
-            trial.prepare(c, j);
-            trial.moreMinute = minute;
-            trial.moreStrength = s;
+            prepare(c, j, 0);
+            trial.blows(minute, s);
             if (trial.verdictHeld() != verdict) {
                 return minute;
             }
@@ -338,8 +343,7 @@ public final class SnuffCourt {
         }
         long part = 0;
         for (int away = 0; away < 1 << court.draughts; away++) {
-            trial.prepare(c, j);
-            trial.away = away;
+            prepare(c, j, away);
             if (trial.verdictHeld() == side + 1) {
                 part += weightOf(v, away);
             }
@@ -386,7 +390,7 @@ public final class SnuffCourt {
         }
         int bits = 0;
         for (int slow = SLOW_LEAST; slow <= SLOW_MOST; slow++) {
-            if (memory.fits(trial, j, court.habit[j], slow)) {
+            if (memory.fits(court, trial, j, court.habit[j], slow)) {
                 bits |= 1 << slow;
             }
         }
@@ -551,8 +555,13 @@ public final class SnuffCourt {
         return bits;
     }
 
+    /** Ahead of a HEARING, were it now: away are the DRAUGHTS that stay away (bits). */
+    private void prepare(int c, int j, int away) {
+        trial.prepare(court, c, j, away);
+    }
+
     private int verdictNow(int c, int j) {
-        trial.prepare(c, j);
+        prepare(c, j, 0);
         return trial.verdictHeld();
     }
 
@@ -593,7 +602,7 @@ public final class SnuffCourt {
             return BAD;
         }
         for (int v = 0; v <= FLAME_BOUNDS[what]; v++) {
-            trial.prepare(c, j);
+            prepare(c, j, 0);
             trial.change(side, what, v);
             if (trial.verdictHeld() == side + 1) {
                 return v;
@@ -604,7 +613,7 @@ public final class SnuffCourt {
 
     private void fillVerdictsByGuards(int c, int j) {
         for (int pair = 0; pair < GUARDS * GUARDS; pair++) {
-            trial.prepare(c, j);
+            prepare(c, j, 0);
             trial.change(0, GUARD, pair / GUARDS);
             trial.change(1, GUARD, pair % GUARDS);
             verdictsByGuards[pair] = trial.verdictHeld();
@@ -696,7 +705,7 @@ public final class SnuffCourt {
     private int habitsAsSeen(int j) {
         int bits = 0;
         for (int habit = 0; habit < HABITS; habit++) {
-            bits |= memory.fits(trial, j, habit, court.slow[j]) ? 1 << habit : 0;
+            bits |= memory.fits(court, trial, j, habit, court.slow[j]) ? 1 << habit : 0;
         }
         return bits;
     }
@@ -706,7 +715,7 @@ public final class SnuffCourt {
         for (int verdict = 1; verdict <= HUNG; verdict++) {
             int left = 0;
             for (int habit = 0; habit < HABITS; habit++) {
-                trial.prepare(c, j);
+                prepare(c, j, 0);
                 trial.habit = habit;
                 left += (habits >> habit & 1) != 0 && trial.verdictHeld() == verdict ? 1 : 0;
             }
@@ -721,7 +730,7 @@ public final class SnuffCourt {
         }
         int c = got % court.cases;
         driftLengths[2 * c + got / 8 % 2] = got / 16 % 20;
-        trial.prepare(c, got / 512 % court.judges);
+        prepare(c, got / 512 % court.judges, 0);
         trial.change(0, LENGTH, driftLengths[2 * c]);
         trial.change(1, LENGTH, driftLengths[2 * c + 1]);
         int verdict = trial.verdictHeld();
@@ -842,24 +851,17 @@ public final class SnuffCourt {
         }
     }
 
-    /** One HEARING by itself: what it is prepared with may be changed, and the court is only looked at. */
+    /** One HEARING by itself: what it is prepared with may be changed, the court it comes from stays as it is. */
     private static final class Trial {
-        final Court court;
         final int[] kind = new int[2];
         final int[] length = new int[2];
         final int[] guard = new int[2];
+        final int[] strongest = new int[MINUTE_MOST + 1];
         int habit = 0;
         int slow = SLOW_LEAST;
-        int away = 0;
-        int moreMinute = NONE;
-        int moreStrength = 0;
         int minute = 0;
 
-        Trial(Court itsCourt) {
-            court = itsCourt;
-        }
-
-        void prepare(int c, int j) {
+        void prepare(Court court, int c, int j, int away) {
             for (int side = 0; side < 2; side++) {
                 kind[side] = court.kind[2 * c + side];
                 length[side] = court.length[2 * c + side];
@@ -867,8 +869,18 @@ public final class SnuffCourt {
             }
             habit = court.habit[j];
             slow = court.slow[j];
-            away = 0;
-            moreMinute = NONE;
+            for (int m = 0; m < strongest.length; m++) {
+                strongest[m] = 0;
+            }
+            for (int i = 0; i < court.draughts; i++) {
+                if ((away >> i & 1) == 0) {
+                    blows(court.minute[i], court.strength[i]);
+                }
+            }
+        }
+
+        void blows(int inMinute, int strength) {
+            strongest[inMinute] = Math.max(strongest[inMinute], strength);
         }
 
         void change(int side, int what, int v) {
@@ -900,17 +912,7 @@ public final class SnuffCourt {
         }
 
         boolean burnsStill(int side) {
-            return length[side] > 0 && guard[side] >= strongestDraught();
-        }
-
-        int strongestDraught() {
-            int strongest = moreMinute == minute ? moreStrength : 0;
-            for (int i = 0; i < court.draughts; i++) {
-                if (court.minute[i] == minute && (away >> i & 1) == 0) {
-                    strongest = Math.max(strongest, court.strength[i]);
-                }
-            }
-            return strongest;
+            return length[side] > 0 && guard[side] >= strongest[minute];
         }
 
         int goesTo() {
@@ -937,8 +939,7 @@ public final class SnuffCourt {
             for (int i = 0; i < court.hearings; i++) {
                 int c = court.docketCase[i];
                 if (verdict[c] == 0) {
-                    trial.prepare(c, court.docketJudge[i]);
-                    trial.away = away;
+                    trial.prepare(court, c, court.docketJudge[i], away);
                     verdict[c] = trial.verdictHeld();
                     minutes += trial.minute + 1;
                 } else if (firstPassed == NONE) {
@@ -967,9 +968,9 @@ public final class SnuffCourt {
         }
 
         /** Whether all is as SEEN, were this JUDGE of this HABIT and so SLOW. */
-        boolean fits(Trial trial, int j, int habit, int slow) {
+        boolean fits(Court court, Trial trial, int j, int habit, int slow) {
             for (int i = 0; i < size; i++) {
-                trial.prepare(ofCase[i], ofJudge[i]);
+                trial.prepare(court, ofCase[i], ofJudge[i], 0);
                 if (ofJudge[i] == j) {
                     trial.habit = habit;
                     trial.slow = slow;
@@ -1033,13 +1034,12 @@ public final class SnuffCourt {
 
     /** THE TAPE, and its text TOKEN by TOKEN. Every FAULT is of the TOKEN that is read: its place is from. */
     private static final class Reader {
-        static final int END = 0, NAME = 1, NUMBER = 2, SIGN = 3;
+        static final int END = 0, NAME = 1, NUMBER = 2, SIGN = 3, NOTHING = 4;
 
         final int[] tape = new int[TAPE_MOST];
         final Court told = new Court();
         int size = 0;
         int wrong = 0;
-        int lines = 0;
         boolean docketTold = false;
         int token = END;
         int from = 0;
@@ -1055,20 +1055,16 @@ public final class SnuffCourt {
             return true;
         }
 
-        boolean takesAll() {
+        boolean begins() {
             told.clear();
             docketTold = false;
             wrong = 0;
             behind = 0;
-            if (!readsNext()) {
-                return false;
-            }
-            for (lines = 0; lines < TAPE_MOST && token != END; lines++) {
-                if (!takesLine()) {
-                    return false;
-                }
-            }
-            return docketStands() || fails(6);
+            return readsNext();
+        }
+
+        boolean isAtEnd() {
+            return token == END;
         }
 
         boolean fails(int withFault) {
@@ -1079,7 +1075,7 @@ public final class SnuffCourt {
         boolean docketStands() {
             for (int i = 0; i < told.hearings; i++) {
                 if (!told.hasCase(told.docketCase[i]) || !told.hasJudge(told.docketJudge[i])) {
-                    return false;
+                    return fails(6);
                 }
             }
             return true;
@@ -1213,42 +1209,34 @@ public final class SnuffCourt {
                 token = END;
                 return true;
             }
-            if (tape[from] == ';') {
-                token = SIGN;
-                behind++;
-                return true;
-            }
-            if (isLetter(tape[from])) {
-                token = NAME;
-                readsLetters();
-                return true;
-            }
-            token = NUMBER;
-            readsFigures();
-            return isIn(behind - from, 1, 2) || fails(1);
-        }
-
-        void readsLetters() {
-            while (behind < size && isLetter(tape[behind])) {
+            token = tokenOf(tape[from]);
+            behind++;
+            while (behind < size && token != SIGN && tokenOf(tape[behind]) == token) {
                 behind++;
             }
-        }
-
-        /** A NUMBER that is too long is refused, so it does not matter what it comes to. */
-        void readsFigures() {
-            number = 0;
-            while (behind < size && isFigure(tape[behind])) {
-                number = 10 * number + tape[behind] - '0';
-                behind++;
+            if (token == NOTHING || token == NUMBER && behind - from > 2) {
+                return fails(1);
             }
+            number = token == NUMBER ? figuresRead() : NONE;
+            return true;
         }
 
-        static boolean isLetter(int c) {
-            return isIn(c, 'a', 'z');
+        int figuresRead() {
+            int value = 0;
+            for (int i = from; i < behind; i++) {
+                value = 10 * value + tape[i] - '0';
+            }
+            return value;
         }
 
-        static boolean isFigure(int c) {
-            return isIn(c, '0', '9');
+        static int tokenOf(int c) {
+            if (c >= 'a' && c <= 'z') {
+                return NAME;
+            }
+            if (c >= '0' && c <= '9') {
+                return NUMBER;
+            }
+            return c == ';' ? SIGN : NOTHING;
         }
 
         int kindNamed() {
@@ -1277,7 +1265,6 @@ public final class SnuffCourt {
             return isNamed("bare") ? BARE : NONE;
         }
 
-        /** The TOKEN that is read, whole; one that is no NAME begins with no letter. */
         boolean isNamed(String name) {
             if (token != NAME || behind - from != name.length()) {
                 return false;

@@ -192,6 +192,9 @@ final class BestTest {
         due.is("-1", x.share(0, -1), BAD);
         due.is("the least", x.share(0, Integer.MIN_VALUE), BAD);
         due.is("the most", x.share(0, Integer.MAX_VALUE), BAD);
+        SnuffCourt z = Due.told("case wax 9 wax 9;case wax 9 wax 9;case wax 9 wax 0;first 2;bare 3;");
+        due.is("SIDE 0 wins one", z.share(0, 0), 1);
+        due.is("SIDE 1 wins two", z.share(1, 0), 2);
         SnuffCourt y = Due.told("case wax 1 wax 2;");
         due.is("no JUDGES", y.share(0, 0), NONE);
         due.is("no JUDGES, CASE 0", y.share(1, 10), NONE);
@@ -221,6 +224,12 @@ final class BestTest {
         z.hear(2, 2);
         due.is("with one that is won", z.swap(0, 0), 14);
         due.is("with one that is won, how many", z.swap(0, 1), 2);
+        SnuffCourt w = Due.told("case wax 9 5 wax 9;case wax 9 wax 9;first 2;long 1;draught 2 5;docket 0 1 1 0;");
+        due.is("draughts come, SIDE 0", w.swap(0, 0), 1);
+        due.is("draughts come, SIDE 0, how many", w.swap(0, 1), 1);
+        due.is("draughts come, SIDE 1", w.swap(1, 0), NONE);
+        w.calm(0);
+        due.is("without a draught", w.swap(0, 0), NONE);
         due.is("no docket", Due.told(cases).swap(0, 0), NONE);
         due.is("none at all", new SnuffCourt().swap(0, 0), NONE);
     }

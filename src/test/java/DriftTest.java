@@ -29,6 +29,12 @@ final class DriftTest {
         due.is("seed 1, two, all LENGTHS", x.drift(1, 2, 1), 90 + 29 + 17 + 26);
         x.train(1, 0, 2);
         due.is("seed 1, two, short", x.drift(1, 2, 0), 1);
+        // one CASE, one JUDGE: SIDE 0, LENGTH 0
+        SnuffCourt y = Due.told("case bees 40 wax 50;long 1;");
+        due.is("one CASE, one JUDGE", y.drift(0, 1, 1), 50);
+        // of seed 1 SIDE 0, LENGTH 12: SIDE 1 is the longer one in MINUTE 1
+        due.is("one CASE, one JUDGE, won", y.drift(1, 1, 0), 1);
+        due.is("one CASE, one JUDGE, LENGTHS", y.drift(1, 1, 1), 11 + 48);
     }
 
     private static void nothingChanged(Due due) {

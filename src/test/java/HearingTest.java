@@ -126,6 +126,14 @@ final class HearingTest {
         due.is("one burnt down", x.appeal(2), 3);
         due.is("LENGTH 2 0", x.flame(2, 0, 1), 2);
         due.is("LENGTH 2 1", x.flame(2, 1, 1), 1);
+        SnuffCourt y = Due.told("case wax 1 wax 0;case wax 1 wax 0;case wax 0 wax 0;case wax 0 wax 0;first 1;");
+        y.hear(1, 0);
+        due.is("of CASE 1 alone", y.appeal(1), 2);
+        due.is("not of CASE 0", y.flame(0, 1, 1), 0);
+        due.is("not of CASE 2", y.flame(2, 0, 1), 0);
+        y.hear(3, 0);
+        due.is("of CASE 3", y.appeal(3), 2);
+        due.is("of CASE 3, SIDE 1", y.flame(3, 1, 1), 1);
         due.is("no CASE", x.appeal(3), BAD);
         due.is("no CASE -1", x.appeal(-1), BAD);
     }
@@ -177,6 +185,10 @@ final class HearingTest {
         x.cut(0);
         due.is("without a docket", x.runs(0), 1);
         due.is("without a docket, MINUTES", x.runs(4), 0);
+        SnuffCourt y = Due.told("case wax 9 5 wax 9;first 2;draught 1 3;docket 0 0;");
+        due.is("by a draught", y.runs(0), 1);
+        due.is("by a draught, MINUTES", y.runs(4), 2);
+        due.is("by a draught, ahead", y.ahead(0), 1);
         due.is("5", x.runs(5), BAD);
         due.is("-1", x.runs(-1), BAD);
         due.is("no CASE", x.ahead(4), BAD);

@@ -132,6 +132,9 @@ final class SeenTest {
         due.is("of first and short, one", y.ask(0, 1), 1);
         y.hear(2, 0);
         due.is("its VERDICT aside", y.ask(0, 0), 2);
+        SnuffCourt z = Due.told(THREE);
+        Due.tell(z, "first 2;");
+        due.is("CASES that were", z.ask(0, 0), NONE);
         due.is("no CASES", Due.told("long 1;").ask(0, 0), NONE);
         due.is("no JUDGE", y.ask(1, 0), BAD);
         due.is("no JUDGE -1", y.ask(-1, 0), BAD);

@@ -114,6 +114,17 @@ final class SheetTest {
         x.sheet(1, 0, 2);
         due.is("INDEX of a shorter one", x.lay(1, 2, 0), -12);
         due.is("a new row has 0 alone", x.read(1, 0, 0, 1), -20);
+        SnuffCourt y = Due.told(FOUR);
+        y.sheet(1, 2, 4);
+        y.lay(1, 0, 1);
+        y.lay(1, 1, 1);
+        y.lay(1, 3, 7);
+        y.sheet(1, 2, 4);
+        due.is("a new row", y.read(1, 2, 0, 1), 1);
+        due.is("CASE 0 by JUDGE 0", y.suit(0, 3), 0);
+        due.is("a new row, its last", y.lay(1, 2, 2), 1);
+        due.is("CASE 2 by JUDGE 0", y.read(1, 2, 2, 1), 1);
+        due.is("CASE 2", y.suit(2, 3), 0);
         x.sheet(2, 2, 0);
         due.is("no CELLS", x.lay(2, 0, 0), -12);
     }

@@ -216,6 +216,9 @@ final class TextTest {
     private static void docketFaults(Due due) {
         due.group("promises 4 and 5, docket");
         due(due, "docket", -16, 2);
+        due(due, "docket#", -16, 1);
+        due(due, "docket 100;", -17, 1);
+        due(due, "docket 0 0#", -20, 1);
         due(due, "docket wax;", -17, 2);
         due(due, "docket 0;", -18, 2);
         due(due, "docket 4 0;", -17, 3);
@@ -290,6 +293,20 @@ final class TextTest {
         due.is("SHEET 0", x.count(3), 7);
         due.is("an empty one", x.text(), 0);
         due.is("no CASES", x.rule(0), 0);
+
+        SnuffCourt y = Due.told("case wax 5 7 wax 5 9;case wax 0 3 wax 5 3;case wax 5 wax 0;first 2;long 2;");
+        y.hear(1, 0);
+        y.appeal(1);
+        y.hear(1, 0);
+        y.hear(2, 0);
+        due.is("fewer CASES", Due.tell(y, "case bees 9 bees 9;long 2;"), 2);
+        due.is("no GUARD is told", y.flame(0, 0, 2), 0);
+        due.is("no GUARD is told of SIDE 1", y.flame(0, 1, 2), 0);
+        due.is("GUARDS of one CASE", y.count(4), 0);
+        due.is("none won by SIDE 0", y.rule(4), 0);
+        due.is("none won by SIDE 1", y.rule(5), 0);
+        due.is("none APPEALED", y.count(5), 0);
+        due.is("LENGTHS of one CASE", y.rule(7), 18);
     }
 
     private static void whatAFaultLeaves(Due due) {
