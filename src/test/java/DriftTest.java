@@ -35,6 +35,9 @@ final class DriftTest {
         // of seed 1 SIDE 0, LENGTH 12: SIDE 1 is the longer one in MINUTE 1
         due.is("one CASE, one JUDGE, won", y.drift(1, 1, 0), 1);
         due.is("one CASE, one JUDGE, LENGTHS", y.drift(1, 1, 1), 11 + 48);
+        y.blow(0, 1);
+        due.is("hung by a draught", y.drift(1, 1, 0), 0);
+        due.is("hung by a draught, LENGTHS", y.drift(1, 1, 1), 12 + 50);
     }
 
     private static void nothingChanged(Due due) {

@@ -132,6 +132,10 @@ final class SeenTest {
         due.is("of first and short, one", y.ask(0, 1), 1);
         y.hear(2, 0);
         due.is("its VERDICT aside", y.ask(0, 0), 2);
+        SnuffCourt w = Due.told("case wax 9 5 wax 9 4;long 2;");
+        due.is("without a draught", w.ask(0, 1), 2);
+        w.blow(1, 5);
+        due.is("by a draught", w.ask(0, 1), NONE);
         SnuffCourt z = Due.told(THREE);
         Due.tell(z, "first 2;");
         due.is("CASES that were", z.ask(0, 0), NONE);

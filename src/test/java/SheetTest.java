@@ -122,6 +122,13 @@ final class SheetTest {
         y.sheet(1, 2, 4);
         due.is("a new row", y.read(1, 2, 0, 1), 1);
         due.is("CASE 0 by JUDGE 0", y.suit(0, 3), 0);
+        y.lay(1, 0, 3);
+        y.sheet(0, 2, 40);
+        due.is("the row behind a long one stays", y.read(1, 2, 0, 1), 1);
+        due.is("CASE 3 by JUDGE 0", y.suit(3, 3), 0);
+        due.is("the last row, all of it", y.sheet(3, 2, 40), 1);
+        due.is("the last row, its last", y.lay(3, 39, 1), 1);
+        due.is("no CELL behind it", y.lay(3, 40, 1), -12);
         due.is("a new row, its last", y.lay(1, 2, 2), 1);
         due.is("CASE 2 by JUDGE 0", y.read(1, 2, 2, 1), 1);
         due.is("CASE 2", y.suit(2, 3), 0);

@@ -135,6 +135,10 @@ final class TextTest {
         due(due, "fiRst 1;", -10, 2);
         due(due, "firsts 1;", -10, 2);
         due(due, "firs 1;", -10, 2);
+        due(due, "a", -10, 2);
+        due(due, "z", -10, 2);
+        due(due, "firstz 1;", -10, 2);
+        due(due, "first z", -16, 2);
         due(due, "  wax 1;", -12, 2);
         due(due, "casewax 1 wax 1;", -10, 2);
         due(due, ";", -10, 2);
