@@ -14,7 +14,7 @@ public final class SnuffCourt {
     private static final int LANE_BYTES = 0, LANE_SHORTS = 1, LANE_INTS = 2;
 
     private static final int[] BURNS = {3, 2, 1, 6};
-    private static final int[] FLAME_BOUNDS = {3, LENGTH_MOST, GUARD_MOST};
+    private static final int[] FLAME_BOUNDS = {3, 99, 9};
 
     private final Court court = new Court();
     private final Court firstImage = new Court();
