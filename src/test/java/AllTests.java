@@ -1,4 +1,6 @@
-/** Runs every test of the project; the path of SnuffCourt.java is its argument. */
+import java.nio.file.Path;
+
+/** Runs every test of the project; its arguments are the paths of SnuffCourt.java and of DOC.md. */
 public final class AllTests {
     private AllTests() {
     }
@@ -13,6 +15,9 @@ public final class AllTests {
         SeenTest.run(due);
         DriftTest.run(due);
         SheetTest.run(due);
+        edges(due, Path.of(args.length > 1 ? args[1] : "../shared/DOC.md"));
+        BoundsTest.run(due);
+        RefusedTest.run(due);
         ModelTest.run(due);
         RoomTest.run(due);
         LanguageTest.run(due, args.length > 0 ? args[0] : "src/main/java/SnuffCourt.java");
@@ -20,5 +25,16 @@ public final class AllTests {
         if (due.failed() != 0) {
             System.exit(1);
         }
+    }
+
+    private static void edges(Due due, Path document) throws Exception {
+        Edges edges = new Edges(due, document);
+        EdgeTextTest.run(due, edges);
+        EdgeStateTest.run(due, edges);
+        EdgeHearingTest.run(due, edges);
+        EdgeBestTest.run(due, edges);
+        EdgeSeenTest.run(due, edges);
+        EdgeSheetTest.run(due, edges);
+        edges.allAreHeld();
     }
 }
