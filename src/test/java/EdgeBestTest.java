@@ -229,6 +229,9 @@ final class EdgeBestTest {
         due.is("with one that is won ahead", z.swap(0, 1), 3);
         SnuffCourt w = Due.told("case wax 9 5 wax 9;first3;short3;draught 2 3;docket 0 0 0 0;");
         due.is("won by a draught as it is", w.swap(0, 0), NONE);
+        SnuffCourt v = Due.told("case wax 9 5 wax 9 5;case wax 9 5 wax 9;first3;first1;draught 2 3;docket 0 0 1 1;");
+        due.is("won by a draught then", v.swap(0, 0), 1);
+        due.is("won by a draught then, how many", v.swap(0, 1), 1);
         due.is("an empty docket", Due.told(cases).swap(0, 0), NONE);
         due.is("one HEARING alone", Due.told(cases + "docket 2 0;").swap(0, 0), NONE);
         due.is("none at all", new SnuffCourt().swap(0, 1), NONE);

@@ -98,6 +98,10 @@ final class EdgeHearingTest {
             x.hear(c, 0);
             due.is("not twice, " + c, x.appeal(c), STATE);
         }
+        SnuffCourt y = Due.told("case wax 0 wax 0;case wax 0 wax 0;case wax 0 wax 0;long1;");
+        y.hear(1, 0);
+        due.is("of its own FLAMES", y.appeal(1), 2);
+        due.is("of no others", y.rule(7), 2);
     }
 
     private static void byTheDocket(Due due, Edges edges) {
@@ -215,6 +219,10 @@ final class EdgeHearingTest {
         y.plan(3, 0);
         y.cut(4);
         due.is("none behind a cut", y.runs(3), NONE);
+        SnuffCourt z = Due.told("case bees 9 9 bees 8;first5;draught 2 1;docket 0 0;");
+        due.is("a draught, won by SIDE 0", z.runs(0), 1);
+        due.is("a draught, MINUTES", z.runs(4), 3);
+        due.is("a draught, VERDICT", z.ahead(0), 1);
         due.is("5", x.runs(5), BAD);
         due.is("-1", x.runs(-1), BAD);
 

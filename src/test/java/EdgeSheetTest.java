@@ -121,6 +121,10 @@ final class EdgeSheetTest {
         due.is("-1, lane -1", x.sheet(2, -1, -1), BAD);
         due.is("what is refused leaves it", x.read(2, 0, 0, 1), 1);
         due.is("what is refused leaves it: CASE 3 by JUDGE 1", x.suit(3, 3), 1);
+        SnuffCourt y = withSheet(0, 3, 1);
+        due.is("a new one as the old one was", y.sheet(2, 0, 2), 1);
+        due.is("of CELLS 0 alone", y.read(2, 0, 0, 1), 1);
+        due.is("of CELLS 0 alone: CASE 0 by JUDGE 0", y.suit(0, 3), 0);
         due.is("a new one", x.sheet(2, 0, 40), 1);
         due.is("of CELLS 0", x.read(2, 0, 38, 1), 1);
         due.is("of CELLS 0: CASE 0 by JUDGE 0", x.suit(0, 3), 0);
@@ -154,6 +158,11 @@ final class EdgeSheetTest {
     private static void readHowMany(Due due, Edges edges) {
         edges.of(44, "n (0 to 20) times a CASE, a JUDGE are read of a SHEET taken as of a lane, two CELLS each from CELL f on, "
                 + "one behind another as by hear(): how many were heard");
+        SnuffCourt z = withSheet(1, 0, 1, 1, 0, 2, 1);
+        read(due, z, new int[] {2, 1, 0, 3}, 3, 0);
+        for (int c = 0; c < 3; c++) {
+            due.is("by their JUDGES, CASE " + c, z.suit(c, 3), c == 1 ? 0 : 1);
+        }
         SnuffCourt x = withSheet(1, 9, 3, 1, 0, 0, 9);
         read(due, x, new int[] {2, 1, 1, 2}, 2, 0);
         due.is("CASE 3 by JUDGE 1", x.suit(3, 3), 1);
@@ -257,7 +266,11 @@ final class EdgeSheetTest {
         for (int what = 0; what < 6; what++) {
             due.is("at first " + what, x.count(what), first[what]);
         }
+        x.keep(1);
+        due.is("IMAGE 1 alone", x.count(1), 1);
         Due.tell(x, "case wax 1 9 wax 1 9;".repeat(4) + "long1;");
+        x.keep(0);
+        due.is("IMAGE 0 alone", x.count(1), 1);
         for (int i = 0; i < 7; i++) {
             x.see(0, 0, 1);
         }

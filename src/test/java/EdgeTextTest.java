@@ -219,6 +219,9 @@ final class EdgeTextTest {
 
         edges.of(Edges.CASES, "1 no TOKEN, a NUMBER that is too long (its first byte)");
         text(due, "long .1;", -10 - 5, 1);
+        text(due, "docket#", -10 - 6, 1);
+        text(due, "case#", -10 - 4, 1);
+        text(due, "draught#", -10 - 7, 1);
         text(due, "long 100;", -10 - 5, 1);
         text(due, "long 000000;", -10 - 5, 1);
         text(due, "100", -10, 1);
@@ -330,6 +333,9 @@ final class EdgeTextTest {
         due.is("CELLS", x.count(3), 2);
         due.is("what they hold", x.read(0, 1, 0, 1), 1);
         due.is("CASE 0 by JUDGE 1", x.suit(0, 3), 1);
+        due.is("LENGTHS of one CASE behind two", Due.tell(x, "case wax 3 1 wax 4 2;docket;") * 10 + x.rule(7), 27);
+        due.is("GUARDS of one CASE behind two", x.count(4), 3);
+        due.is("docket in a text again", Due.tell(x, "docket;"), 1);
         due.is("an empty one", x.text(), 0);
         for (int what = 0; what <= 7; what++) {
             due.is("an empty one tells nothing " + what, x.rule(what), 0);
