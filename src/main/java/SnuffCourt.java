@@ -1162,18 +1162,17 @@ public final class SnuffCourt {
             if (!readsNext()) {
                 return false;
             }
-            for (int i = 0; i <= HEARINGS_MOST && token == NUMBER; i++) {
+            for (int i = 0; i < HEARINGS_MOST && token == NUMBER; i++) {
                 if (!takesHearing()) {
                     return false;
                 }
             }
-            return takesSign();
+            // behind the most that may be, what stands where one more would begin need be no NUMBER
+            boolean isOneMore = told.hearings >= HEARINGS_MOST && token != SIGN && token != END;
+            return isOneMore ? fails(5) : takesSign();
         }
 
         boolean takesHearing() {
-            if (told.hearings >= HEARINGS_MOST) {
-                return fails(5);
-            }
             if (!isNumberIn(0, CASES_MOST - 1)) {
                 return false;
             }

@@ -1,6 +1,6 @@
 import java.nio.file.Path;
 
-/** Runs every test of the project; its arguments are the paths of SnuffCourt.java and of DOC.md. */
+/** Runs every test of the project; its arguments are the paths of SnuffCourt.java, of DOC.md and of README.md. */
 public final class AllTests {
     private AllTests() {
     }
@@ -21,6 +21,7 @@ public final class AllTests {
         ModelTest.run(due);
         RoomTest.run(due);
         LanguageTest.run(due, args.length > 0 ? args[0] : "src/main/java/SnuffCourt.java");
+        ReadmeTest.run(due, args.length > 2 ? args[2] : "README.md");
         System.out.println(due.passed() + " passed, " + due.failed() + " failed");
         if (due.failed() != 0) {
             System.exit(1);

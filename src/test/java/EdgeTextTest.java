@@ -283,8 +283,18 @@ final class EdgeTextTest {
         text(due, six + " 4 0;", -10 - 31, 5);
         text(due, six + " 99 99;", -10 - 31, 5);
         text(due, six + " 0#", -10 - 31, 5);
-        text(due, six + "wax", -10 - 30, 2);
+        for (String name : new String[] {"wax", "docket", "long 1;", "lamp", "docket;", "case wax1wax1;"}) {
+            text(due, six + name, -10 - 30, 5);
+            text(due, six + "  " + name, -10 - 32, 5);
+            text(due, "docket" + " 0 0".repeat(5) + name, -10 - 26, 2);
+            text(due, "docket" + " 0 0".repeat(5) + " 0" + name, -10 - 28, 2);
+        }
+        text(due, six + "#", -10 - 30, 1);
+        text(due, six, -10 - 30, 2);
+        text(due, six + " ", -10 - 31, 2);
         text(due, six + ";", -10 - 31, 6);
+        text(due, six + ";long", -10 - 35, 2);
+        text(due, CASE + "long1;" + six + ";long1;", 4, 0);
     }
 
     private static void missing(Due due, Edges edges) {

@@ -193,7 +193,7 @@ final class Model {
                     room(!docket, 4);
                     docket = true;
                     take(name);
-                    while (peek().matches("[0-9]+")) {
+                    while (!peek().equals(";") && !peek().isEmpty()) {
                         room(world.docket.size() < 6, 5);
                         world.docket.add(new int[] {number(0, 3), number(0, 2)});
                     }

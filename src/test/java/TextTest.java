@@ -251,7 +251,7 @@ final class TextTest {
         due(due, six + "9;", -41, 5);
         due(due, six + "99", -41, 5);
         due(due, six + "100", -41, 1);
-        due(due, six + "wax", -41, 2);
+        due(due, six + "wax", -41, 5);
         due(due, six, -41, 2);
         due(due, CASE + "first 1;" + six + ";", 3, 0);
     }
